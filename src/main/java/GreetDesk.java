@@ -235,8 +235,7 @@ public final class GreetDesk {
       if (from < 0) {
         return;
       }
-      int end = Math.min(other.size, other.cells.length);
-      for (int i = from; i < end && size < cells.length; i++) {
+      for (int i = from; i < other.size && i < other.cells.length && size < cells.length; i++) {
         cells[size] = other.cells[i];
         size++;
       }
@@ -740,7 +739,7 @@ public final class GreetDesk {
       hash.label(first.root, 5, hash.noContext, first.ofAnswerer);
     }
 
-    /** Of the story so far, so what it is called with depends on where the story stands. */
+    /** Of the story so far: called where it has come to the messages that the secrets hang on. */
     private void makeSecrets(Pair pair, int w, Row under) {
       hash.digest(story, storySum);
       hash.mac(under, storySum, pair.root);
@@ -748,6 +747,7 @@ public final class GreetDesk {
       hash.label(pair.root, w + 1, storySum, pair.ofAnswerer);
     }
 
+    /** Of the story so far, as the secrets are. */
     private void makeProof(int side) {
       hash.label(greet.secretOf(side), 10, hash.noContext, proof);
       hash.digest(story, storySum);

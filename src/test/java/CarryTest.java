@@ -53,7 +53,7 @@ public final class CarryTest {
     Desks.unchanged("had a fault", IllegalStateException.class, early, 0, () -> early.carry(1, 1, 10));
     Desks.unchanged("had a fault", IllegalStateException.class, early, 0, () -> early.carry(1, 0, 10));
 
-    GreetDesk keys = Desks.told(Desks.KEY, Desks.row(32, 12));
+    GreetDesk keys = Desks.told(Desks.KEY, Desks.row(32, 12), Desks.PARAMETERS0, Desks.PARAMETERS1);
     keys.begin(0);
     keys.begin(1);
     Check.same("HELLO", keys.carry(0, 0, 999), 0);

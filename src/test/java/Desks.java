@@ -45,17 +45,17 @@ final class Desks {
 
   /** Both sides know all, none has begun. */
   static GreetDesk told() {
-    return told(KEY, KEY);
+    return told(KEY, KEY, PARAMETERS0, PARAMETERS1);
   }
 
-  static GreetDesk told(int[] key0, int[] key1) {
+  static GreetDesk told(int[] key0, int[] key1, int[] parameters0, int[] parameters1) {
     GreetDesk desk = new GreetDesk();
     tell(desk, 0, 0, key0);
     tell(desk, 0, 1, RANDOM0);
-    tell(desk, 0, 2, PARAMETERS0);
+    tell(desk, 0, 2, parameters0);
     tell(desk, 1, 0, key1);
     tell(desk, 1, 1, RANDOM1);
-    tell(desk, 1, 2, PARAMETERS1);
+    tell(desk, 1, 2, parameters1);
     return desk;
   }
 
@@ -63,6 +63,17 @@ final class Desks {
     GreetDesk desk = told();
     desk.begin(0);
     desk.begin(1);
+    return desk;
+  }
+
+  /** A whole greeting, with these parameters. */
+  static GreetDesk greeted(int[] parameters0, int[] parameters1) {
+    GreetDesk desk = told(KEY, KEY, parameters0, parameters1);
+    desk.begin(0);
+    desk.begin(1);
+    for (int i = 0; i < 4; i++) {
+      Check.same("step " + i, step(desk, i), 0);
+    }
     return desk;
   }
 

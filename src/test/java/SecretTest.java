@@ -55,24 +55,21 @@ public final class SecretTest {
 
   private static void everySize() {
     for (int size = 0; size <= 300; size++) {
-      int[] parameters0 = Desks.row(size, 1);
-      int[] parameters1 = Desks.row((size * 131 + 17) % 301, 2);
-      GreetDesk desk = new GreetDesk();
-      for (int side = 0; side < 2; side++) {
-        Desks.tell(desk, side, 0, Desks.KEY);
-        Desks.tell(desk, side, 1, side == 0 ? Desks.RANDOM0 : Desks.RANDOM1);
-        Desks.tell(desk, side, 2, side == 0 ? parameters0 : parameters1);
-        desk.begin(side);
-      }
-      for (int i = 0; i < 4; i++) {
-        Check.same("step with " + size, Desks.step(desk, i), 0);
-      }
-      Oracle due = new Oracle(Desks.KEY, Desks.RANDOM0, parameters0, Desks.RANDOM1, parameters1);
-      Check.sameBytes("greet with " + size, Desks.secret(desk, 0, 1, 0), due.greet[0]);
-      Check.sameBytes("greet with " + size, Desks.secret(desk, 1, 1, 1), due.greet[1]);
-      Check.sameBytes("talk with " + size, Desks.secret(desk, 0, 2, 1), due.talk[1]);
-      Check.sameBytes("talk with " + size, Desks.secret(desk, 1, 2, 0), due.talk[0]);
+      greetWith(size, (size * 131 + 17) % 301);
+      greetWith(size, 300);
     }
+  }
+
+  private static void greetWith(int size0, int size1) {
+    int[] parameters0 = Desks.row(size0, 1);
+    int[] parameters1 = Desks.row(size1, 2);
+    GreetDesk desk = Desks.greeted(parameters0, parameters1);
+    String with = " with " + size0 + " and " + size1;
+    Oracle due = new Oracle(Desks.KEY, Desks.RANDOM0, parameters0, Desks.RANDOM1, parameters1);
+    Check.sameBytes("greet" + with, Desks.secret(desk, 0, 1, 0), due.greet[0]);
+    Check.sameBytes("greet" + with, Desks.secret(desk, 1, 1, 1), due.greet[1]);
+    Check.sameBytes("talk" + with, Desks.secret(desk, 0, 2, 1), due.talk[1]);
+    Check.sameBytes("talk" + with, Desks.secret(desk, 1, 2, 0), due.talk[0]);
   }
 
   private static void wrongInputs() {

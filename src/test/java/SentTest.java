@@ -24,18 +24,9 @@ public final class SentTest {
   }
 
   private static void largest() {
-    GreetDesk desk = new GreetDesk();
     int[] parameters0 = Desks.row(300, 5);
     int[] parameters1 = Desks.row(300, 6);
-    for (int side = 0; side < 2; side++) {
-      Desks.tell(desk, side, 0, Desks.KEY);
-      Desks.tell(desk, side, 1, side == 0 ? Desks.RANDOM0 : Desks.RANDOM1);
-      Desks.tell(desk, side, 2, side == 0 ? parameters0 : parameters1);
-      desk.begin(side);
-    }
-    for (int i = 0; i < 4; i++) {
-      Check.same("step", Desks.step(desk, i), 0);
-    }
+    GreetDesk desk = Desks.greeted(parameters0, parameters1);
     Oracle due = new Oracle(Desks.KEY, Desks.RANDOM0, parameters0, Desks.RANDOM1, parameters1);
     Check.same("HELLO's size, high", desk.sent(0, 0, 2), 1);
     Check.same("HELLO's size, low", desk.sent(0, 0, 3), 76);
@@ -43,5 +34,6 @@ public final class SentTest {
     Check.missing("behind it", () -> desk.sent(0, 0, 336));
     Check.same("the last byte of DONE", desk.sent(1, 1, 339), due.done1[35]);
     Check.missing("behind it", () -> desk.sent(1, 1, 340));
+    Check.sameBytes("DONE of 0", Desks.sent(desk, 0, 1), due.done0);
   }
 }
