@@ -7,6 +7,14 @@ final class Desks {
   static final int[] PARAMETERS1 = {0, 128, 9, 200, 7};
   static final int[] NAME = {131, 148, 200, 240, 62, 81, 87, 8};
 
+  /** Arguments that are no side and no level of 0 and 1: the first ones on both ends, and far off. */
+  static final int[] NOT_0_1 = {-1, 2, 3, 256, -256, Integer.MIN_VALUE, Integer.MAX_VALUE};
+
+  /** Makes desks that are all alike. */
+  interface Maker {
+    GreetDesk make();
+  }
+
   private Desks() {}
 
   static int[] row(int size, int start) {
@@ -31,6 +39,15 @@ final class Desks {
       }
       desk.feed(n, v);
     }
+  }
+
+  /** The same desks, with these bytes on the tape. */
+  static Maker with(Maker maker, int... bytes) {
+    return () -> {
+      GreetDesk desk = maker.make();
+      feed(desk, bytes);
+      return desk;
+    };
   }
 
   static void tell(GreetDesk desk, int side, int what, int... bytes) {
@@ -63,6 +80,20 @@ final class Desks {
     GreetDesk desk = told();
     desk.begin(0);
     desk.begin(1);
+    return desk;
+  }
+
+  /** Only this side has begun; both know all. */
+  static GreetDesk begun(int side) {
+    GreetDesk desk = told();
+    desk.begin(side);
+    return desk;
+  }
+
+  /** Behind so many steps, a byte that no one waits for has come to the side. */
+  static GreetDesk faulty(int steps, int side) {
+    GreetDesk desk = after(steps);
+    Check.same("a wrong byte", take(desk, side, 0, 77), 266);
     return desk;
   }
 
@@ -129,14 +160,5 @@ final class Desks {
       all[i] = desk.look(i / 12, i % 12);
     }
     return all;
-  }
-
-  /** The call throws, and neither the tape's size nor any look is another one behind it. */
-  static void unchanged(String what, Class<? extends RuntimeException> due, GreetDesk desk, int tape,
-      Check.Call call) {
-    int[] before = looks(desk);
-    Check.raises(what, due, call);
-    Check.sameBytes(what + ": the looks behind it", looks(desk), before);
-    Check.same(what + ": the tape behind it", desk.wipe(), tape);
   }
 }

@@ -22,6 +22,14 @@ public final class FaceTest {
   };
 
   public static void main(String[] args) {
+    methods();
+    constructorAndClass();
+    fieldsAndClassesInside();
+    Check.close();
+  }
+
+  private static void methods() {
+    Check.sentence("The public face", "public final class GreetDesk");
     Set<String> names = new TreeSet<>();
     Set<String> seen = new TreeSet<>();
     for (Method method : GreetDesk.class.getDeclaredMethods()) {
@@ -31,37 +39,36 @@ public final class FaceTest {
         Check.same(method + " is public", Modifier.isPublic(method.getModifiers()) ? 1 : 0, 1);
       }
     }
-    Check.same("the face is " + seen, seen.equals(new TreeSet<>(Arrays.asList(DUE))) ? 1 : 0, 1);
+    Check.sameText("the face is", seen.toString(), new TreeSet<>(Arrays.asList(DUE)).toString());
+    for (Method method : GreetDesk.class.getDeclaredMethods()) {
+      if (Modifier.isPrivate(method.getModifiers())) {
+        Check.same(method + " bears a name of the face", names.contains(method.getName()) ? 1 : 0, 0);
+      }
+    }
+  }
+
+  private static void constructorAndClass() {
+    Check.sentence("The public face", "public GreetDesk()");
     Check.same("public and final", GreetDesk.class.getModifiers(), Modifier.PUBLIC | Modifier.FINAL);
     Constructor<?>[] makers = GreetDesk.class.getDeclaredConstructors();
     Check.same("constructors", makers.length, 1);
     Check.same("its modifiers", makers[0].getModifiers(), Modifier.PUBLIC);
     Check.same("its parameters", makers[0].getParameterCount(), 0);
-    fields(GreetDesk.class);
-    for (Field field : GreetDesk.class.getDeclaredFields()) {
-      Check.same(field + " is private", Modifier.isPrivate(field.getModifiers()) ? 1 : 0, 1);
-    }
-    for (Class<?> inside : GreetDesk.class.getDeclaredClasses()) {
-      Check.same(inside + " is static", Modifier.isStatic(inside.getModifiers()) ? 1 : 0, 1);
-      fields(inside);
-      for (Method method : inside.getDeclaredMethods()) {
-        Check.same(method + " bears a name of the face", names.contains(method.getName()) ? 1 : 0, 0);
-      }
-    }
-    Check.close();
   }
 
-  private static void fields(Class<?> owner) {
-    int own = 0;
-    for (Field field : owner.getDeclaredFields()) {
+  private static void fieldsAndClassesInside() {
+    Check.sentence("LANGUAGE.md, rules 1 and 5", "no other public, protected or package-visible member");
+    Check.same("desks can be made", new GreetDesk().wipe(), 0);
+    for (Field field : GreetDesk.class.getDeclaredFields()) {
       int modifiers = field.getModifiers();
-      if (Modifier.isStatic(modifiers)) {
-        Check.same(field + " is final", Modifier.isFinal(modifiers) ? 1 : 0, 1);
-      } else {
-        own++;
-      }
+      Check.same(field + " is private", Modifier.isPrivate(modifiers) ? 1 : 0, 1);
+      Check.same(field + " is final, if it is static",
+          !Modifier.isStatic(modifiers) || Modifier.isFinal(modifiers) ? 1 : 0, 1);
     }
-    Check.same(owner + " has at most 20 fields: " + own, own <= 20 ? 1 : 0, 1);
+    for (Class<?> inside : GreetDesk.class.getDeclaredClasses()) {
+      int seen = inside.getModifiers() & (Modifier.PUBLIC | Modifier.PROTECTED);
+      Check.same(inside + " is private or package-visible", seen, 0);
+    }
   }
 
   private static String written(Method method) {

@@ -1,4 +1,5 @@
 import java.util.Random;
+import java.util.function.LongSupplier;
 
 /** Runs of up to 512 calls on a desk and on a model; every answer and every exception is the same. */
 public final class RandomRunsTest {
@@ -171,24 +172,19 @@ public final class RandomRunsTest {
         () -> model.carry(side, level, n));
   }
 
-  private void same(String call, Check.Call got, Check.Call due) {
-    if (calls >= CALLS) {
-      return;
+  private void same(String call, LongSupplier got, LongSupplier due) {
+    if (calls < CALLS) {
+      calls++;
+      String want = outcome(due);
+      Check.sameText(run + ", call " + calls + ": " + call, outcome(got), want);
     }
-    calls++;
-    long want;
+  }
+
+  private static String outcome(LongSupplier call) {
     try {
-      want = due.answer();
+      return "answers " + call.getAsLong();
     } catch (RuntimeException e) {
-      Check.raises(run + ", call " + calls + ": " + call, e.getClass(), got);
-      return;
+      return "throws " + e.getClass().getName();
     }
-    long have;
-    try {
-      have = got.answer();
-    } catch (RuntimeException e) {
-      throw new AssertionError(run + ", call " + calls + ": " + call + " threw, due is " + want, e);
-    }
-    Check.same(run + ", call " + calls + ": " + call, have, want);
   }
 }
