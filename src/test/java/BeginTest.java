@@ -13,7 +13,7 @@ public final class BeginTest {
   }
 
   private static void askerBegins() {
-    Check.sentence("Terms", "Side 0, when it begins, SENDS HELLO and waits for ANSWER");
+    Check.sentence(PLACE + ", Terms", "Side 0, when it begins, SENDS HELLO and waits for ANSWER");
     GreetDesk desk = Desks.told();
     Desks.feed(desk, 1, 2, 3);
     desk.begin(0);
@@ -25,7 +25,7 @@ public final class BeginTest {
   }
 
   private static void answererBegins() {
-    Check.sentence("Terms", "Side 1, when it begins, waits for HELLO");
+    Check.sentence(PLACE + ", Terms", "Side 1, when it begins, waits for HELLO");
     GreetDesk desk = Desks.told();
     Desks.feed(desk, 1, 2, 3);
     desk.begin(1);
@@ -81,7 +81,7 @@ public final class BeginTest {
   }
 
   private static void argumentFirst() {
-    Check.sentence("Terms", "Of several exceptions the first one told is thrown");
+    Check.sentence(PLACE + ", Terms", "Of several exceptions the first one told is thrown");
     for (int side : Desks.NOT_0_1) {
       Refused.argument(GreetDesk::new, Act.begin(side));
       Refused.argument(Desks::begun, Act.begin(side));

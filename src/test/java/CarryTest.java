@@ -178,7 +178,7 @@ public final class CarryTest {
   }
 
   private static void argumentFirst() {
-    Check.sentence("Terms", "Of several exceptions the first one told is thrown");
+    Check.sentence(PLACE + ", Terms", "Of several exceptions the first one told is thrown");
     Desks.Maker[] makers = {Desks::told, () -> Desks.faulty(0, 1)};
     for (Desks.Maker maker : makers) {
       Refused.argument(maker, Act.carry(0, 0, 0), Act.carry(0, 1, -1), Act.carry(0, 2, 1), Act.carry(0, -1, 1));

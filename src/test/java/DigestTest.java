@@ -2,7 +2,7 @@ import java.util.Arrays;
 
 /** DIGEST, MAC and LABEL, sentence by sentence, as the secrets and proofs show them. */
 public final class DigestTest {
-  private static final String PLACE = "Terms";
+  private static final String PLACE = "Promises 8 and 9, Terms";
 
   public static void main(String[] args) {
     knownAnswers();

@@ -2,7 +2,7 @@ import java.util.Arrays;
 
 /** The faults, sentence by sentence: when each is looked at, and what comes behind it. */
 public final class FaultTest {
-  private static final String PLACE = "Terms";
+  private static final String PLACE = "Promises 6 and 7, Terms";
   private static final int[] ANSWERED = {8, 1, 0, 0, 39, 0, 0, 0, -1, 1, 39, 0};
   /** What each side waits for behind 0 .. 4 steps. */
   private static final int[][] WANTED = {{2, 2, 8, 0, 0}, {1, 20, 20, 20, 0}};
@@ -53,8 +53,8 @@ public final class FaultTest {
     Check.same("PARAMETERS", Desks.take(second, 0, 1, Desks.oracle().parameters), 0);
     Check.same("PARAMETERS again, one byte", Desks.take(second, 0, 1, 8), 266);
     GreetDesk together = Desks.after(2);
-    Check.same("PARAMETERS and one byte", Desks.take(together, 0, 1, Oracle.join(Desks.oracle().parameters, new int[] {8})),
-        266);
+    int[] piece = Oracle.join(Desks.oracle().parameters, new int[] {8});
+    Check.same("PARAMETERS and one byte", Desks.take(together, 0, 1, piece), 266);
     Check.same("the parameters are known", together.look(0, 8), 5);
   }
 
@@ -225,7 +225,8 @@ public final class FaultTest {
     Check.same("proof, then size", Desks.take(Desks.after(1), 1, 1, Oracle.join(wrong, new int[] {20, 0, 0, 31})), 307);
     Check.same("size, then proof", Desks.take(Desks.after(1), 1, 1, Oracle.join(new int[] {20, 0, 0, 33}, wrong)), 306);
     GreetDesk second = Desks.after(2);
-    Check.same("the second message", Desks.take(second, 0, 1, Oracle.join(due.parameters, new int[] {20, 0, 0, 31, 9})), 306);
+    int[] size = Oracle.join(due.parameters, new int[] {20, 0, 0, 31, 9});
+    Check.same("the second message", Desks.take(second, 0, 1, size), 306);
     Check.same("the first one was read", second.look(0, 8), 5);
     GreetDesk proof = Desks.after(2);
     Check.same("the second message", Desks.take(proof, 0, 1, Oracle.join(due.parameters, wrong, new int[] {9})), 307);
@@ -274,7 +275,8 @@ public final class FaultTest {
     int[] side1 = {0, 1, 0, 266, 0, 0, 0, 0, -1, -1, 0, 0};
     Check.sameBytes("looks", Arrays.copyOfRange(Desks.looks(hello), 12, 24), side1);
     GreetDesk answer = Desks.after(1);
-    Check.same("a wrong head, then ANSWER", Desks.take(answer, 0, 0, Oracle.join(new int[] {2, 0, 0, 31}, due.answer)), 306);
+    int[] head = {2, 0, 0, 31};
+    Check.same("a wrong head, then ANSWER", Desks.take(answer, 0, 0, Oracle.join(head, due.answer)), 306);
     int[] side0 = {0, 1, 0, 306, 39, 0, 0, 0, -1, -1, 39, 0};
     Check.sameBytes("looks", Arrays.copyOf(Desks.looks(answer), 12), side0);
     GreetDesk done = Desks.after(1);

@@ -57,7 +57,8 @@ public final class FeedTest {
     Check.sentence(PLACE, "Throws IllegalArgumentException when n is not 1 .. 8");
     Check.same("feed(1, 0)", new GreetDesk().feed(1, 0), 1);
     Check.same("feed(8, 0)", new GreetDesk().feed(8, 0), 8);
-    for (int n : new int[] {0, 9, -1, 10, 16, -8, 256 + 1, Integer.MIN_VALUE, Integer.MIN_VALUE + 1, Integer.MAX_VALUE}) {
+    int[] wrong = {0, 9, -1, 10, 16, -8, 257, Integer.MIN_VALUE, Integer.MIN_VALUE + 1, Integer.MAX_VALUE};
+    for (int n : wrong) {
       Refused.argument(GreetDesk::new, Act.feed(n, 1));
       Refused.argument(Desks.with(GreetDesk::new, 5, 6, 7), Act.feed(n, 1));
     }
@@ -79,7 +80,7 @@ public final class FeedTest {
 
   /** A full tape has its last byte too: message by message it comes to a side as it was fed. */
   private static void fullWithEveryByte() {
-    Check.sentence("Terms", "The TAPE has at most 2048 bytes");
+    Check.sentence(PLACE + ", Terms", "The TAPE has at most 2048 bytes");
     GreetDesk desk = filled(2047);
     desk.feed(1, 255);
     Check.same("wipe", desk.wipe(), 2048);
@@ -92,7 +93,7 @@ public final class FeedTest {
   }
 
   private static void argumentFirst() {
-    Check.sentence("Terms", "Of several exceptions the first one told is thrown");
+    Check.sentence(PLACE + ", Terms", "Of several exceptions the first one told is thrown");
     for (int n : new int[] {0, 9, -1, Integer.MIN_VALUE, Integer.MAX_VALUE}) {
       Refused.argument(() -> filled(2048), Act.feed(n, 0));
     }

@@ -2,7 +2,7 @@ import java.util.Arrays;
 
 /** The messages of a greeting and their order, sentence by sentence. */
 public final class GreetingTest {
-  private static final String PLACE = "Terms";
+  private static final String PLACE = "Promises 5 to 9, Terms";
 
   public static void main(String[] args) {
     hello();

@@ -243,7 +243,7 @@ public final class LookTest {
   }
 
   private static void argumentFirst() {
-    Check.sentence("Terms", "Of several exceptions the first one told is thrown");
+    Check.sentence(PLACE + ", Terms", "Of several exceptions the first one told is thrown");
     for (int bad : Desks.NOT_0_1) {
       Refused.argument(() -> Desks.after(3), Act.look(bad, 12), Act.look(bad, -1), Act.look(bad, bad));
     }

@@ -120,7 +120,7 @@ public final class SecretTest {
   }
 
   private static void argumentFirst() {
-    Check.sentence("Terms", "Of several exceptions the first one told is thrown");
+    Check.sentence(PLACE + ", Terms", "Of several exceptions the first one told is thrown");
     for (int level = 0; level < 3; level++) {
       Refused.argument(GreetDesk::new, Act.secret(0, level, 0, 32), Act.secret(0, level, 0, -1),
           Act.secret(0, level, 2, 0), Act.secret(0, level, -1, 0), Act.secret(2, level, 0, 0),

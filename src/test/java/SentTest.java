@@ -23,7 +23,7 @@ public final class SentTest {
   }
 
   private static void largest() {
-    Check.sentence("Terms", "three bytes, the size of its BODY, highest first");
+    Check.sentence(PLACE + ", Terms", "three bytes, the size of its BODY, highest first");
     for (int size : new int[] {0, 1, 223, 224, 255, 256, 299, 300}) {
       int[] parameters0 = Desks.row(size, 5);
       int[] parameters1 = Desks.row(size, 6);
@@ -85,7 +85,7 @@ public final class SentTest {
   }
 
   private static void argumentFirst() {
-    Check.sentence("Terms", "Of several exceptions the first one told is thrown");
+    Check.sentence(PLACE + ", Terms", "Of several exceptions the first one told is thrown");
     for (int bad : Desks.NOT_0_1) {
       for (int k : new int[] {-1, 0, 999}) {
         Refused.argument(GreetDesk::new, Act.sent(bad, 0, k), Act.sent(0, bad, k), Act.sent(bad, bad, k));

@@ -46,7 +46,7 @@ public final class TakeTest {
   }
 
   private static void emptyTape() {
-    Check.sentence("Terms", "Bytes come at a level in order, in any pieces");
+    Check.sentence(PLACE + ", Terms", "Bytes come at a level in order, in any pieces");
     for (int steps = 0; steps < 5; steps++) {
       GreetDesk desk = Desks.after(steps);
       int[] before = Desks.looks(desk);
@@ -130,7 +130,7 @@ public final class TakeTest {
   }
 
   private static void argumentFirst() {
-    Check.sentence("Terms", "Of several exceptions the first one told is thrown");
+    Check.sentence(PLACE + ", Terms", "Of several exceptions the first one told is thrown");
     for (int bad : Desks.NOT_0_1) {
       Refused.argument(Desks.with(Desks::told, 1), Act.take(0, bad), Act.take(1, bad), Act.take(bad, 0));
       Refused.argument(Desks.with(() -> Desks.faulty(0, 0), 1), Act.take(0, bad), Act.take(bad, 1));

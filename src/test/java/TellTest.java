@@ -74,7 +74,7 @@ public final class TellTest {
   }
 
   private static void keyAndRandomOf32() {
-    Check.sentence("Terms", "Each has a KEY and RANDOM bytes (32 each)");
+    Check.sentence(PLACE + ", Terms", "Each has a KEY and RANDOM bytes (32 each)");
     for (int side = 0; side < 2; side++) {
       for (int what = 0; what < 2; what++) {
         accepted(side, what, 32);
@@ -86,7 +86,7 @@ public final class TellTest {
   }
 
   private static void parametersOf0To300() {
-    Check.sentence("Terms", "PARAMETERS, 0 to 300 bytes");
+    Check.sentence(PLACE + ", Terms", "PARAMETERS, 0 to 300 bytes");
     for (int side = 0; side < 2; side++) {
       for (int size : new int[] {0, 1, 32, 255, 256, 299, 300}) {
         accepted(side, 2, size);
@@ -108,7 +108,7 @@ public final class TellTest {
   }
 
   private static void nameOf1To20() {
-    Check.sentence("Terms", "the FIRST NAME (1 to 20 bytes)");
+    Check.sentence(PLACE + ", Terms", "the FIRST NAME (1 to 20 bytes)");
     for (int side = 0; side < 2; side++) {
       for (int size : new int[] {1, 2, 19, 20}) {
         accepted(side, 3, size);
@@ -197,7 +197,7 @@ public final class TellTest {
   }
 
   private static void argumentFirst() {
-    Check.sentence("Terms", "Of several exceptions the first one told is thrown");
+    Check.sentence(PLACE + ", Terms", "Of several exceptions the first one told is thrown");
     for (int side = 0; side < 2; side++) {
       for (int size : new int[] {0, 31, 33}) {
         Refused.argument(Desks.with(Desks::begun, Desks.row(size, 0)), Act.tell(side, 0), Act.tell(side, 1));

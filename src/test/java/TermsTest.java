@@ -3,7 +3,7 @@ import java.util.List;
 
 /** The document's terms that hold for all calls, sentence by sentence. */
 public final class TermsTest {
-  private static final String PLACE = "Terms";
+  private static final String PLACE = "Promises 1 to 11, Terms";
 
   public static void main(String[] args) {
     bytes();

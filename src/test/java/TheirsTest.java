@@ -76,7 +76,7 @@ public final class TheirsTest {
   }
 
   private static void argumentFirst() {
-    Check.sentence("Terms", "Of several exceptions the first one told is thrown");
+    Check.sentence(PLACE + ", Terms", "Of several exceptions the first one told is thrown");
     for (int bad : Desks.NOT_0_1) {
       Refused.argument(GreetDesk::new, Act.theirs(bad, 0), Act.theirs(bad, -1), Act.theirs(bad, 300));
     }
